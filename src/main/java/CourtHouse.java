@@ -809,7 +809,7 @@ public final class CourtHouse {
                 measureStay(docket, day, w);
                 findFoes(people, w);
             }
-            return settle(people, 0);
+            return settle(this, people, 0);
         }
 
         private void measureStay(Docket docket, Day day, int witness) {
@@ -836,25 +836,38 @@ public final class CourtHouse {
         }
 
         /** Goes one deeper for each witness, ten at most; the least room is tried first, so the first row is found. */
-        private boolean settle(People people, int witness) {
+        private static boolean settle(Rooms rooms, People people, int witness) {
             if (witness >= people.size) {
                 return true;
             }
-            if (until[witness] == NEVER) {
-                return settle(people, witness + 1);
+            if (rooms.until[witness] == NEVER) {
+                return settle(rooms, people, witness + 1);
             }
             int least = people.kindOf[witness] == AFRAID ? ROOMS - 1 : 0;
             for (int room = least; room < ROOMS; room++) {
-                if ((inRoom[room] & foes[witness]) == 0) {
-                    roomOf[witness] = room;
-                    inRoom[room] |= 1 << witness;
-                    if (settle(people, witness + 1)) {
+                if (rooms.isFree(room, witness)) {
+                    rooms.enter(room, witness);
+                    if (settle(rooms, people, witness + 1)) {
                         return true;
                     }
-                    inRoom[room] &= ~(1 << witness);
+                    rooms.leave(room, witness);
                 }
             }
             return false;
+        }
+
+        private boolean isFree(int room, int witness) {
+            return (inRoom[room] & foes[witness]) == 0;
+        }
+
+        private void enter(int room, int witness) {
+            roomOf[witness] = room;
+            inRoom[room] |= 1 << witness;
+        }
+
+        private void leave(int room, int witness) {
+            roomOf[witness] = NO_ROOM;
+            inRoom[room] &= ~(1 << witness);
         }
     }
 

@@ -135,9 +135,23 @@ public final class ChancesTest {
         x.rule(1, 0);
         d.due("all cost nothing", x.best(1), 0);
         d.due("best, no case", x.best(2), Due.BAD);
+        bestNextToTheFirst();
         for (int wild : Due.WILD) {
             d.due("best case", x.best(wild), Due.BAD);
         }
+    }
+
+    private static void bestNextToTheFirst() {
+        CourtHouse x = new CourtHouse();
+        x.newCase(0, 8, 0);
+        x.newCase(0, 5, 0);
+        x.newCase(0, 1, 0);
+        x.witness(0, 12);
+        x.needs(2, 1);
+        d.due("one above the way", x.best(2), 13);
+        x.move(0, 0);
+        d.due("at the way", x.best(2), 12);
+        d.due("behind", x.best(0), 0);
     }
 
     private static void calls() {

@@ -11,6 +11,8 @@ public final class DayTest {
         waitsOfAFoldedCase();
         waitsLessOtherCases();
         pays();
+        eachRunsTheDay();
+        fullHouse();
         wrongOnes();
         d.end("DayTest");
     }
@@ -201,6 +203,65 @@ public final class DayTest {
         x.call(2, 2, 4);
         d.due("3 and 3 are one hour", x.pay(2), 10 + 600 + 1);
         d.due("no such witness", x.pay(5), Due.BAD);
+    }
+
+    /** Each question is the first one after a change, so that none may answer by an older day. */
+    private static void eachRunsTheDay() {
+        CourtHouse x = new CourtHouse();
+        x.witness(2, 0);
+        x.newCase(0, 8, 0);
+        x.newCase(0, 1, 0);
+        x.needs(0, 1);
+        x.needs(1, 1);
+        x.rule(2, 1);
+        x.rule(4, 100);
+        d.due("pay of a day not run yet", x.pay(0), 200);
+        x.call(0, 0, 9);
+        d.due("waits", x.waits(), 9);
+        x.call(0, 1, 9);
+        d.due("pay", x.pay(0), 200);
+        x.fate(0, 0);
+        d.due("waited", x.waited(0, 0), 0);
+        x.fate(0, 20);
+        d.due("idle", x.idle(0, 0), 9);
+        x.call(0, 0, 5);
+        d.due("begins", x.begins(1, 0), 25);
+        x.newCase(1, 8, 0);
+        x.needs(2, 1);
+        d.due("pay of three, in a case all the time", x.pay(0), 300);
+        x.newCase(2, 1, 0);
+        x.needs(0, 0);
+        d.due("pay of two: 9 .. 19 for case 1 are two hours", x.pay(0), 200 + 2);
+    }
+
+    /** All numbers at their greatest: ten witnesses, twelve cases, three courts. */
+    private static void fullHouse() {
+        CourtHouse x = new CourtHouse();
+        for (int w = 0; w < 10; w++) {
+            x.witness(w % 5, 0);
+        }
+        for (int c = 0; c < 12; c++) {
+            x.newCase(c % 3, 1, 0);
+            d.due("needs all", x.needs(c, 1023), 0);
+        }
+        for (int c = 0; c < 12; c++) {
+            int inTurn = c % 3 * 4 + c / 3;
+            d.due("one court after the other, " + c, x.begins(c, 0), inTurn);
+            d.due("as there is a case all the time", x.waited(9, c), 0);
+            d.due("best", x.best(c) >= 0 ? 1 : 0, 1);
+            d.due("plan", x.plan(c), x.called(9, c));
+        }
+        d.due("room", x.room(9), 2);
+        for (int w = 0; w < 9; w++) {
+            d.due("apart", x.apart(9, w, 1), 0);
+        }
+        d.due("pairs", x.count(4), 9);
+        d.due("room", x.room(9), Due.NO);
+        for (int c = 0; c < 12; c++) {
+            d.due("move", x.move(c, c % 3), 3);
+        }
+        d.due("notices", x.count(2), 60);
+        d.due("waits", x.waits() >= 0 ? 1 : 0, 1);
     }
 
     private static void wrongOnes() {

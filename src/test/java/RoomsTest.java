@@ -56,8 +56,11 @@ public final class RoomsTest {
         rooms("all together but the afraid", x, 0, 0, 0, 0, 2, 2);
         x.apart(0, 1, 1);
         rooms("two apart", x, 0, 1, 0, 0, 2, 2);
-        x.apart(1, 2, 1);
+        x.apart(0, 1, 0);
         x.apart(0, 2, 1);
+        rooms("0 and 1 together, 2 not with 0", x, 0, 0, 1, 0, 2, 2);
+        x.apart(0, 1, 1);
+        x.apart(1, 2, 1);
         rooms("three apart", x, 0, 1, 2, 0, 2, 2);
         x.needs(0, 62);
         rooms("one in no room", x, Due.NONE, 0, 1, 0, 2, 2);

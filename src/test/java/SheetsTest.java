@@ -34,8 +34,10 @@ public final class SheetsTest {
         d.due("as it was", x.mark(1, 11, 8), 9);
         d.due("2 places", x.sheet(1, 2), 2);
         d.due("no place 2", x.mark(1, 2, 1), Due.INDEX);
+        x.mark(1, 0, 4);
         x.mark(1, 1, 5);
         x.sheet(1, 3);
+        d.due("all 0 as it grows", x.mark(1, 0, 5), 0);
         d.due("all 0 as it grows", x.mark(1, 1, 5), 0);
     }
 
@@ -153,6 +155,8 @@ public final class SheetsTest {
         d.due("fewer cases: those behind are not looked at", x.take(1), 4);
         d.due("fold", x.told(3, 3), 33);
         d.due("fold", x.told(0, 3), 0);
+        x.mark(1, 0, 101);
+        d.due("101 first", x.take(1), Due.NO);
         x.mark(1, 0, 77);
         x.mark(1, 3, 101);
         d.due("101", x.take(1), Due.NO);
