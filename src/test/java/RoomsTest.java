@@ -73,7 +73,7 @@ public final class RoomsTest {
         x.apart(1, 3, 1);
         rooms("3 from all", x, 0, 0, 2, 1);
         x.apart(0, 1, 1);
-        rooms("nothing for 3, however far back: 0, 1, 2 take all three rooms", x, 0, 2, 2, 1);
+        rooms("1 leaves room 1 to 3", x, 0, 2, 2, 1);
         CourtHouse y = house(0, 4);
         y.apart(0, 1, 1);
         rooms("the afraid one in 2", y, 0, 2);
@@ -113,23 +113,20 @@ public final class RoomsTest {
 
     private static void staysToTheEnd() {
         CourtHouse x = new CourtHouse();
-        for (int i = 0; i < 2; i++) {
-            x.witness(0, 0);
-        }
+        x.witness(0, 10);
+        x.witness(0, 0);
         for (int i = 0; i < 12; i++) {
             x.newCase(i < 6 ? 0 : 1, 8, 0);
             x.fate(i, 20);
-            x.needs(i, i == 11 ? 2 : 1);
+            x.needs(i, i == 11 ? 1 : 2);
+            x.call(1, i, 20);
         }
         x.apart(0, 1, 1);
-        d.due("11 never began", x.begins(11, 0), Due.NONE);
-        rooms("both to 200", x, 0, 1);
-        x.needs(10, 0);
-        rooms("0 to 180", x, 0, 1);
-        x.needs(10, 1);
-        x.needs(0, 0);
-        x.newCase(2, 1, 0);
-        rooms("still", x, 0, 1);
+        d.due("the last but two never began", x.begins(9, 0), Due.NONE);
+        d.due("the last never began", x.begins(11, 0), Due.NONE);
+        rooms("0 is there from 10 to 200", x, 0, 1);
+        x.move(11, 2);
+        rooms("0 is there at 10 alone", x, 0, 0);
     }
 
     private static void noneWillDo() {
