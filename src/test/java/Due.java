@@ -8,13 +8,32 @@ final class Due {
 
     private int asked;
     private int wrong;
+    private String sentence = "";
+
+    /** The words of the document that the next answers are about; they are told with an answer that is not as due. */
+    void says(String words) {
+        sentence = words;
+    }
 
     void due(String call, long got, long want) {
         asked++;
         if (got != want) {
             wrong++;
-            System.out.println(call + " answered " + got + ", due is " + want);
+            System.out.println(call + " answered " + got + ", due is " + want + told());
         }
+    }
+
+    /** For what is no single answer: whether it holds. */
+    void holds(String text, boolean yes) {
+        asked++;
+        if (!yes) {
+            wrong++;
+            System.out.println(text + told());
+        }
+    }
+
+    private String told() {
+        return sentence.isEmpty() ? "" : "  (\"" + sentence + "\")";
     }
 
     void end(String test) {
