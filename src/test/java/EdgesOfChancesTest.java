@@ -46,8 +46,11 @@ public final class EdgesOfChancesTest {
         d.says("WEIGHT of a QUARTER t for a CASE with k CASES ahead: of all 100 to the power of k");
         Run x = run().go("newCase(0, 8, 100) = 0", "weight(0, 0) = 1", "weight(0, 1) = 0", "weight(0, 8) = 0",
                 "weight(0, 48) = 0", "weight(0, -1) = BAD", "weight(0, 49) = BAD", "weight(1, 0) = BAD");
+        d.says("FATES that are told are no CHANCES");
+        x.go("newCase(0, 3, 30) = 1", "fate(0, 0) = -1", "weight(1, 0) = 100", "fold(0, 0) = 100", "weight(1, 8) = 100",
+                "fate(0, 20) = 0", "weight(1, 8) = 100", "weight(1, 20) = 0", "fold(0, 100) = 0");
         d.says("cases behind it and in other lists are not ahead");
-        x.go("newCase(0, 3, 30) = 1", "newCase(1, 2, 20) = 2", "weight(0, 0) = 1", "weight(2, 0) = 1",
+        x.go("newCase(1, 2, 20) = 2", "weight(0, 0) = 1", "weight(2, 0) = 1",
                 "weight(1, 0) = 100", "move(0, 1) = 1", "weight(1, 0) = 1", "weight(0, 0) = 20", "weight(0, 2) = 80",
                 "move(2, 2) = 0", "weight(0, 0) = 1");
     }

@@ -16,7 +16,8 @@ final class Houses {
                 "witness(0, 2) = 5");
         x.go("needs(0, 1) = 0", "needs(1, 7) = 0", "needs(3, 26) = 0", "needs(4, 16) = 0", "needs(5, 3) = 0",
                 "needs(6, 4) = 0");
-        x.go("call(0, 0, 6) = 3", "call(1, 1, 9) = 0", "call(3, 3, 30) = 5", "call(0, 5, 4) = 3");
+        x.go("call(0, 0, 6) = 3", "call(1, 1, 9) = 0", "call(3, 3, 30) = 5", "call(0, 5, 4) = 3",
+                "call(2, 1, 33) = 12");
         x.go("fate(0, 7) = -1", "fate(2, 0) = -1", "fate(3, 1) = -1");
         x.go("rule(0, 3) = 1", "rule(1, 9) = 4", "rule(2, 11) = 0", "rule(3, 13) = 0", "rule(4, 17) = 0");
         x.go("apart(0, 1, 1) = 0", "apart(2, 3, 1) = 0", "apart(0, 5, 1) = 0");
@@ -40,7 +41,8 @@ final class Houses {
             x.go("needs(" + c + ", " + (31 << c % 2 * 5) + ") = 0");
             x.go("move(" + c + ", " + c / 6 + ") = 5");
         }
-        x.go("count(2) = 60", "read(3) = 6", "fate(7, 20) = -1", "fate(8, 0) = -1", "call(2, 4, 48) = 5");
+        x.go("count(2) = 60", "read(3) = 6", "fate(7, 20) = -1", "fate(8, 0) = -1", "call(2, 4, 48) = 5",
+                "call(9, 1, 40) = 12");
         x.go("sheet(0, 12) = 12", "sheet(1, 12) = 12", "mark(0, 11, 100) = 0", "mark(1, 0, 5) = 0");
         return x;
     }
