@@ -262,6 +262,10 @@ public final class EdgesOfTheDayTest {
         }
         x.go("needs(0, 31) = 0", "pay(0) = 2400", "needs(0, 0) = 31", "pay(0) = 0", "pay(2) = 0", "pay(4) = 0");
         x.go("pay(5) = BAD", "pay(-1) = BAD");
+        d.says("CALLED for no CASE of twelve");
+        Run full = longDay(true).go("rule(3, 100) = 0", "rule(4, 100) = 0", "witness(2, 12) = 1", "pay(1) = 0",
+                "room(1) = NONE", "needs(11, 2) = 1", "pay(1) = 2500", "needs(11, 1) = 2", "pay(1) = 0");
+        full.go("needs(11, 0) = 1", "pay(0) = 1000");
         d.says("CALLED for one that is FOLDED they are CALLED for a CASE");
         x.go("fate(0, 0) = -1", "needs(0, 31) = 0", "pay(0) = 2400", "pay(1) = 0", "pay(2) = 2400", "pay(3) = 2400");
     }
