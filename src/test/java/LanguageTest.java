@@ -34,8 +34,20 @@ public final class LanguageTest {
             d.due("library: " + library.group(), isImport || LIBRARY.contains(library.group()) ? 1 : 0, 1);
         }
         methods(d, code);
+        makesNothingInCalls(d, code);
         d.due("classes, twelve at most", code.split("\\bclass\\b").length - 1 <= 12 ? 1 : 0, 1);
         d.end("LanguageTest");
+    }
+
+    /** A run's room is small: what is made is made in fields, with the house. */
+    private static void makesNothingInCalls(Due d, String code) {
+        Pattern making = Pattern.compile("\\bnew\\b|\\.clone\\(|= \\{");
+        for (String line : code.split("\n")) {
+            if (making.matcher(line).find()) {
+                boolean isField = line.matches(" +private (static )?final .*;");
+                d.due("made outside a field: " + line.trim(), isField ? 1 : 0, 1);
+            }
+        }
     }
 
     private static void methods(Due d, String code) {
